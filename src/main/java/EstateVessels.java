@@ -231,9 +231,11 @@ public final class EstateVessels {
         if (v < 0 || v > MOST_CLAIM) {
             return BAD;
         }
-        long wanted = v * setup.group.scale(rule);
-        for (int e = 0; e <= setup.group.all(); e++) {
-            if (setup.group.gets(rule, claimant, e, 1) >= wanted) {
+        Group group = setup.group;
+        int all = group.all();
+        long wanted = v * group.scale(rule);
+        for (int e = 0; e <= all; e++) {
+            if (group.gets(rule, claimant, e, 1) >= wanted) {
                 return e;
             }
         }
@@ -247,11 +249,13 @@ public final class EstateVessels {
         if (!setup.group.has(claimant)) {
             return NONE;
         }
+        Group group = setup.group;
+        int all = group.all();
         int bends = 0;
-        long before = setup.group.gets(rule, claimant, 0, 1);
-        long now = setup.group.gets(rule, claimant, 1, 1);
-        for (int e = 1; e < setup.group.all(); e++) {
-            long next = setup.group.gets(rule, claimant, e + 1, 1);
+        long before = group.gets(rule, claimant, 0, 1);
+        long now = group.gets(rule, claimant, 1, 1);
+        for (int e = 1; e < all; e++) {
+            long next = group.gets(rule, claimant, e + 1, 1);
             if (next - now != now - before) {
                 bends++;
             }
@@ -361,14 +365,16 @@ public final class EstateVessels {
         if (!isRule(rule) || !setup.group.has(claimant) || !isPart(part)) {
             return NO;
         }
-        long claim = setup.group.claims[claimant] * setup.group.scale(rule);
+        Group group = setup.group;
+        int all = group.all();
+        long claim = group.claims[claimant] * group.scale(rule);
         int enough = 0;
-        for (int e = 0; e <= setup.group.all(); e++) {
-            if (2 * setup.group.gets(rule, claimant, e, 1) >= claim) {
+        for (int e = 0; e <= all; e++) {
+            if (2 * group.gets(rule, claimant, e, 1) >= claim) {
                 enough++;
             }
         }
-        return inLowestTerms(enough, setup.group.all() + 1, part);
+        return inLowestTerms(enough, all + 1, part);
     }
 
     public long mean(int part) {
@@ -645,6 +651,7 @@ public final class EstateVessels {
                 return;
             }
             claims[claimant] = claim;
+            // The other rows hang on all claims: they are made anew.
             copy(this);
         }
 
@@ -687,7 +694,7 @@ public final class EstateVessels {
             }
         }
 
-        /** By one level for all, in parts of 2 / (PARTS * below); so the half of it is in the rule's own. */
+        /** By one level for all; in parts twice as great as the rule's own, so in those it tells the half. */
         private long levelled(int i, long above, long below) {
             long parts = PARTS / 2;
             long claim = claims[i] * below * parts;
@@ -935,14 +942,19 @@ public final class EstateVessels {
         int parse() {
             place = 0;
             clauses = 0;
-            boolean goesOn = true;
-            while (goesOn && clauses < MOST_CLAUSES) {
-                if (!takesClause()) {
+            for (int k = 0; k < MOST_CLAUSES; k++) {
+                if (k > 0 && !takes(';')) {
                     return place;
                 }
-                goesOn = clauses < MOST_CLAUSES && takes(';');
+                if (!takesClause(k)) {
+                    return place;
+                }
+                if (place >= length) {
+                    clauses = k + 1;
+                    return NO_FAULT;
+                }
             }
-            return place < length ? place : NO_FAULT;
+            return place;
         }
 
         private boolean takes(int sign) {
@@ -954,7 +966,7 @@ public final class EstateVessels {
         }
 
         /** Leaves the place at the first byte that doesn't belong there. */
-        private boolean takesClause() {
+        private boolean takesClause(int k) {
             int kind = place < length ? signs[place] : 0;
             if (kind != 'c' && kind != 'n' && kind != 'e' && kind != 'r') {
                 return false;
@@ -968,10 +980,9 @@ public final class EstateVessels {
             if (value < 0) {
                 return false;
             }
-            kinds[clauses] = kind;
-            whos[clauses] = who;
-            values[clauses] = value;
-            clauses++;
+            kinds[k] = kind;
+            whos[k] = who;
+            values[k] = value;
             return true;
         }
 

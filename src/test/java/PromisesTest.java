@@ -234,6 +234,7 @@ public final class PromisesTest {
         x.estate(15);
         dueAwards("10 talmud by half", x, 3, 5, 1, 10, 1);
         dueAwards("10 turned by half", x, 4, 5, 1, 10, 1);
+        dueAwards("10 arrival of six", of(100, 10, 20, 30, 40, 50, 60), 5, 29, 6, 19, 2, 29, 2, 115, 6, 71, 3, 85, 3);
         due("10 rule", x.award(6, 0, 0), NO);
         due("10 rule", x.award(-1, 0, 0), NO);
         due("10 claimant", x.award(0, 2, 0), NO);
@@ -303,6 +304,9 @@ public final class PromisesTest {
             due("14 consistent", x.consistent(rule), NOT_THERE);
         }
         due("14 arrival isn't", x.consistent(5), 1);
+        due("14 the second of two likes", of(2, 2, 2, 1).consistent(5), 2);
+        // 0 gets half of its claim, as it does with each alone.
+        due("14 two behind the first", of(4, 1, 2, 3, 3).consistent(5), 12);
         due("14 bad", x.consistent(6), BAD);
         due("14 bad", x.consistent(-1), BAD);
         due("14 one alone", of(3, 9).consistent(5), NOT_THERE);
@@ -425,6 +429,11 @@ public final class PromisesTest {
         due("20 not spilled", x.poured(0, 4, -1), 0);
         due("20 spilled", of(20, 10, 20).poured(0, 1, -1), Float.floatToIntBits(10.0f));
         due("20 once full, by drops", of(2, 1, 1).poured(1, 60, -1), reference(2, 1, 1).poured(1, 60, -1));
+        x.renew(0, 1);
+        due("20 spilled less", x.poured(0, 1, -1), Float.floatToIntBits(9.0f));
+        due("20 full", x.poured(0, 1, 0), Float.floatToIntBits(1.0f));
+        x.renew(0, 10);
+        due("20 not spilled again", x.poured(0, 1, -1), 0);
         due("20 small spill", of(10, 10).poured(4, 7, -1), 897581056L);
         due("20 rule", x.poured(5, 4, 0), NO);
         due("20 rule", x.poured(-1, 4, 0), NO);
@@ -522,6 +531,7 @@ public final class PromisesTest {
         x.estate(0);
         due("25 nothing above", x.mean(0), 0);
         due("25 nothing below", x.mean(1), 1);
+        due("25 one claimant", of(7, 1).mean(0), 7);
         due("25 part", x.mean(2), NO);
         due("25 part", x.mean(-1), NO);
         due("25 no claimants", new EstateVessels().mean(0), NO);
