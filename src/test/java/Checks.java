@@ -18,6 +18,10 @@ final class Checks {
         due(what, so ? 1 : 0, 1);
     }
 
+    int all() {
+        return right + wrong;
+    }
+
     int wrong() {
         return wrong;
     }

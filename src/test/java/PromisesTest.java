@@ -12,19 +12,11 @@ public final class PromisesTest {
     }
 
     private static EstateVessels of(int estate, int... claims) {
-        EstateVessels x = new EstateVessels();
-        for (int claim : claims) {
-            x.claim(claim);
-        }
-        x.estate(estate);
-        return x;
+        return Make.of(estate, claims);
     }
 
     private static int read(EstateVessels x, String text) {
-        for (int k = 0; k < text.length(); k++) {
-            x.feed(text.charAt(k));
-        }
-        return x.read();
+        return Make.read(x, text);
     }
 
     private static void dueAwards(String name, EstateVessels x, int rule, int... aboveBelow) {
@@ -311,20 +303,11 @@ public final class PromisesTest {
         due("14 bad", x.consistent(-1), BAD);
         due("14 one alone", of(3, 9).consistent(5), NOT_THERE);
         due("14 two alone", of(3, 9, 2).consistent(5), NOT_THERE);
-        due("14 as the reference", of(9, 2, 3, 4, 5).consistent(5), reference(9, 2, 3, 4, 5).consistent(5));
-        due("14 of three", of(10, 1, 1, 30).consistent(5), reference(10, 1, 1, 30).consistent(5));
+        due("14 as the reference", of(9, 2, 3, 4, 5).consistent(5), Make.reference(9, 2, 3, 4, 5).consistent(5));
+        due("14 of three", of(10, 1, 1, 30).consistent(5), Make.reference(10, 1, 1, 30).consistent(5));
         x.estate(68);
         due("14 state", x.consistent(0), STATE);
         due("14 bad before state", x.consistent(6), BAD);
-    }
-
-    private static Reference reference(int estate, int... claims) {
-        Reference y = new Reference();
-        for (int claim : claims) {
-            y.claim(claim);
-        }
-        y.estate(estate);
-        return y;
     }
 
     private static void promise15() {
@@ -428,7 +411,7 @@ public final class PromisesTest {
         due("20 turned", x.poured(4, 10, 1), Float.floatToIntBits(7.0f));
         due("20 not spilled", x.poured(0, 4, -1), 0);
         due("20 spilled", of(20, 10, 20).poured(0, 1, -1), Float.floatToIntBits(10.0f));
-        due("20 once full, by drops", of(2, 1, 1).poured(1, 60, -1), reference(2, 1, 1).poured(1, 60, -1));
+        due("20 once full, by drops", of(2, 1, 1).poured(1, 60, -1), Make.reference(2, 1, 1).poured(1, 60, -1));
         x.renew(0, 1);
         due("20 spilled less", x.poured(0, 1, -1), Float.floatToIntBits(9.0f));
         due("20 full", x.poured(0, 1, 0), Float.floatToIntBits(1.0f));
