@@ -229,6 +229,10 @@ final class AwardsBoundaries extends Boundaries {
         due("10", three(60).cut(ARRIVAL, 0), 10);
         due("59/60", of(59, 1, 59).cut(SHARE, 0), 0);
         due("60", of(60, 60).cut(TURNED, 0), 60);
+        for (int rule = 0; rule < RULES; rule++) {
+            due("1 of 1", of(1, 1).cut(rule, 0), 1);
+            due("5 of one alone", of(5, 9).cut(rule, 0), 5);
+        }
     }
 
     @Says(promise = 11, value = "BAD: rule")
@@ -596,12 +600,19 @@ final class AwardsBoundaries extends Boundaries {
 
     @Says(promise = 17, value = "BENDS.")
     void bendsOfThree() {
-        int[][] bends = {{1, 2, 2}, {1, 2, 2}, {0, 0, 0}};
-        for (int rule = 0; rule < 3; rule++) {
+        int[][] bends = {{1, 2, 2}, {1, 2, 2}, {0, 0, 0}, {2, 4, 4}, {2, 4, 4}};
+        for (int rule = 0; rule < ARRIVAL; rule++) {
             for (int i = 0; i < 3; i++) {
                 due("of " + i + " by " + rule, three(0).bends(rule, i), bends[rule][i]);
             }
         }
+    }
+
+    @Says(promise = 17, value = "BENDS.")
+    void bendsOfTwoByArrival() {
+        // By 0, 1, .. 5, 6: 0, 1/2, .. 1/2, 1 and 0, 1/2, 3/2, .. 9/2, 5.
+        due("of 1", of(0, 1, 5).bends(ARRIVAL, 0), 2);
+        due("of 5", of(0, 1, 5).bends(ARRIVAL, 1), 2);
     }
 
     @Says(promise = 17, value = "BAD: rule")
@@ -685,6 +696,10 @@ final class AwardsBoundaries extends Boundaries {
         dueOrder(of(50, 10, 20, 30, 7), EVEN, 2, 1, 0, 3);
         dueOrder(of(10, 20, 30, 10), EVEN, 1, 0, 2);
         dueOrder(of(40, 20, 30, 10), SHARE, 1, 0, 2);
+        for (int rule = 0; rule < RULES; rule++) {
+            dueOrder(of(239, 30, 60, 40, 50, 60), rule, 1, 4, 3, 2, 0);
+            dueOrder(of(3, 30, 60, 40, 50, 60), rule, 1, 4, 3, 2, 0);
+        }
         // 2/5 and 3/5 are lost: they aren't cut.
         dueOrder(of(4, 2, 3), SHARE, 1, 0);
     }

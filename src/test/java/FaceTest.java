@@ -34,6 +34,8 @@ public final class FaceTest {
         face();
         names();
         words(Path.of(args[0]));
+        methodsAreShort(Path.of(args[0]));
+        libraryIsAllowed(Path.of(args[0]));
         CHECKS.finish("FaceTest");
     }
 
@@ -106,6 +108,38 @@ public final class FaceTest {
                 && code.contains("import java.util.Arrays;"));
         for (int k = 0; k < text.length(); k++) {
             CHECKS.holds("signs 1 to 127", text.charAt(k) < 128);
+        }
+    }
+
+    /** Each method of some sixty lines at most: from its head to the brace that stands as far in. */
+    private static void methodsAreShort(Path source) throws IOException {
+        List<String> lines = Files.readAllLines(source);
+        int methods = 0;
+        for (int from = 0; from < lines.size(); from++) {
+            String line = lines.get(from);
+            int depth = line.length() - line.stripLeading().length();
+            if (line.endsWith(") {") && (depth == 4 || depth == 8) && line.matches(" +[\\w\\[\\]. ]+\\(.*")
+                    && !line.matches(" +(if|for|while|switch) .*")) {
+                int to = from;
+                while (to < lines.size() && !lines.get(to).equals(" ".repeat(depth) + "}")) {
+                    to++;
+                }
+                CHECKS.holds("short: " + line.trim(), to - from < 60);
+                methods++;
+            }
+        }
+        CHECKS.holds("methods were found", methods > 80);
+    }
+
+    /** Of the library just what LANGUAGE.md's rule 4 lists, by the names before a dot. */
+    private static void libraryIsAllowed(Path source) throws IOException {
+        Set<String> allowed = Set.of("Math.min", "Math.abs", "Integer.bitCount", "Long.MIN_VALUE", "System.arraycopy",
+                "Arrays.fill");
+        java.util.regex.Matcher names = java.util.regex.Pattern.compile("\\b(Math|Integer|Long|System|Arrays|Float|Double|"
+                + "Short|Byte|Boolean|Character|Object|StringBuilder|List)\\.(\\w+)").matcher(
+                Files.readString(source).replace("import java.util.Arrays;", ""));
+        while (names.find()) {
+            CHECKS.holds(names.group() + " is allowed", allowed.contains(names.group()));
         }
     }
 }

@@ -146,6 +146,16 @@ final class SeenBoundaries extends Boundaries {
         due("by even", x.fits(0, 0), 11);
     }
 
+    @Says(promise = 0, value = "were that its own")
+    void fitsOfTheOther() {
+        EstateVessels x = of(10, 10, 20);
+        x.see(1, 4);
+        due("the other's own is 4", x.fits(1, 0), 1);
+        due("4", x.fits(1, 1), 4);
+        due("by none of this one's", x.fits(0, 0), 0);
+        due("no least", x.fits(0, 1), NOT_THERE);
+    }
+
     @Says(promise = 0, value = "the least (-5: none).")
     void fitsThirtyAlone() {
         EstateVessels x = of(10, 10, 21);

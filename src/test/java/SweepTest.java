@@ -22,6 +22,7 @@ public final class SweepTest {
         test.paths();
         test.changes();
         test.vessels();
+        test.vesselsOfOne();
         test.fits();
         test.events();
         test.rowsOfTapes();
@@ -250,6 +251,24 @@ public final class SweepTest {
                         x.gap(rule, n, 0);
                         x.gap(rule, n, 1);
                     }
+                }
+            }
+        }
+    }
+
+    /** One object, of which claims become greater and lesser: nothing is kept from one pouring to the next. */
+    private void vesselsOfOne() {
+        for (int n = 1; n <= 60; n++) {
+            Both x = of("vessels of one", 20, 4, 10, 7);
+            for (int k = 0; k < 8; k++) {
+                x.renew(k % 3, k % 2 == 0 ? 60 - k : 1 + k);
+                x.estate(Math.min(20 + 3 * k, x.told(1)));
+                for (int rule = 0; rule < POURABLE; rule++) {
+                    x.poured(rule, n, -1);
+                    x.poured(rule, n, 0);
+                    x.poured(rule, n, 1);
+                    x.poured(rule, n, 2);
+                    x.gap(rule, 61 - n, 1);
                 }
             }
         }

@@ -150,10 +150,38 @@ final class VesselsBoundaries extends Boundaries {
         dueAmounts(of(11, 4, 10), TALMUD, 11, 3.0f, 8.0f, 0.0f);
         dueAmounts(of(12, 4, 10), TALMUD, 12, 3.0f, 9.0f, 0.0f);
         dueAmounts(of(13, 4, 10), TALMUD, 13, 4.0f, 9.0f, 0.0f);
+        dueAmounts(of(6, 10, 4), TALMUD, 6, 4.0f, 2.0f, 0.0f);
+        dueAmounts(of(10, 10, 4), TALMUD, 10, 8.0f, 2.0f, 0.0f);
+        dueAmounts(of(11, 10, 4), TALMUD, 11, 9.0f, 2.0f, 0.0f);
+        dueAmounts(of(12, 10, 4), TALMUD, 12, 9.0f, 3.0f, 0.0f);
         // At 2 of 5 it is 2, at 3 of 5 it is 8.
         dueAmounts(of(5, 5, 10), TALMUD, 5, 3.0f, 2.0f, 0.0f);
         dueAmounts(of(11, 5, 10), TALMUD, 11, 3.0f, 8.0f, 0.0f);
         dueAmounts(of(12, 5, 10), TALMUD, 12, 4.0f, 8.0f, 0.0f);
+    }
+
+    @Says(promise = 0, value = "TALMUD: AMOUNT, if 2.0f times that is below CLAIM, else the greatest CLAIM less"
+            + " (CLAIM less AMOUNT)")
+    void talmudByGreatestOfNow() {
+        // By a greater one the surfaces are rounded otherwise: 5/3 and 7/3 come of it.
+        EstateVessels x = of(4, 2, 60);
+        x.poured(TALMUD, 12, 0);
+        x.renew(1, 3);
+        dueAmounts(x, TALMUD, 12, 1.3333334f, 2.6666665f, 0.0f);
+        dueAmounts(of(4, 2, 3), TALMUD, 12, 1.3333334f, 2.6666665f, 0.0f);
+    }
+
+    @Says(promise = 0, value = "SHARE: AMOUNT by CLAIM")
+    void shareIsDivided() {
+        // Times 1.0f / CLAIM the surfaces are rounded otherwise: 2/3 and 1/3 come of it.
+        dueAmounts(of(1, 3, 1), SHARE, 9, 0.7777778f, 0.22222222f, 0.0f);
+    }
+
+    @Says(promise = 0, value = "but if that is above CLAIM, it is CLAIM, and what is above (that sum less CLAIM) comes to"
+            + " SPILLED")
+    void eachLittleSpilled() {
+        // Each sum less its claim, then together.
+        dueAmounts(of(3, 1, 2), TURNED, 30, 1.0f, 2.0f, 3.5762787E-7f);
     }
 
     @Says(promise = 0, value = "TURNED: AMOUNT less (CLAIM times 0.5f)")
